@@ -386,22 +386,6 @@ public final class RedBalloons {
 
     // ---- numbers
 
-    private static int cellBeside(int cell, int wind) {
-        int column = cell % CELLS_IN_A_ROW;
-        switch (wind) {
-            case EAST:
-                return column == CELLS_IN_A_ROW - 1 ? NONE : cell + 1;
-            case WEST:
-                return column == 0 ? NONE : cell - 1;
-            case NORTH:
-                return cell < CELLS_IN_A_ROW ? NONE : cell - CELLS_IN_A_ROW;
-            case SOUTH:
-                return cell + CELLS_IN_A_ROW >= CELLS ? NONE : cell + CELLS_IN_A_ROW;
-            default:
-                return cell;
-        }
-    }
-
     private static int power(int base, int exponent) {
         int product = 1;
         for (int i = 0; i < exponent; i++) {
@@ -587,6 +571,7 @@ public final class RedBalloons {
         int kind;
         int cell;
         int what;
+        // NONE whenever it is not CAUGHT.
         int hedge = NONE;
         int caughtBy;
         // The wind that a STRAIGHT one has taken for good; STILL: none yet.
@@ -628,11 +613,17 @@ public final class RedBalloons {
         }
 
         private void goOneCell(int way) {
-            int next = cellBeside(cell, way);
-            if (next == NONE) {
+            int column = cell % CELLS_IN_A_ROW;
+            if (way == EAST && column < CELLS_IN_A_ROW - 1) {
+                cell++;
+            } else if (way == WEST && column > 0) {
+                cell--;
+            } else if (way == NORTH && cell >= CELLS_IN_A_ROW) {
+                cell -= CELLS_IN_A_ROW;
+            } else if (way == SOUTH && cell < CELLS - CELLS_IN_A_ROW) {
+                cell += CELLS_IN_A_ROW;
+            } else if (way != STILL) {
                 what = GONE;
-            } else {
-                cell = next;
             }
         }
 
@@ -721,7 +712,7 @@ public final class RedBalloons {
 
         void passHours(int n) {
             for (int i = 0; i < n; i++) {
-                passHour();
+                passHourBy(city.windOf(hour));
             }
         }
 
@@ -755,30 +746,27 @@ public final class RedBalloons {
         void leaveStanding(int hedges) {
             standing = hedges;
             for (int i = 0; i < city.balloons; i++) {
-                if (balloons[i].what == CAUGHT && !stands(balloons[i].hedge)) {
+                if (balloons[i].hedge >= 0 && !stands(balloons[i].hedge)) {
                     balloons[i].leaveHedge(GONE);
                 }
             }
         }
 
-        /** With what the hedge answers in which a balloon is caught, now or later; NONE. */
-        int answerOf(int balloon) {
-            if (!is(balloon, CAUGHT) || !city.hasHedge(balloons[balloon].hedge)) {
+        /** What has come for a balloon by now; NONE. */
+        int whatCame(int balloon) {
+            Balloon asked = balloons[balloon];
+            if (asked.hedge < 0 || hour - asked.caughtBy < city.late[asked.hedge]) {
                 return NONE;
             }
-            return city.answer[balloons[balloon].hedge];
+            return city.answer[asked.hedge];
         }
 
         boolean isAnswered(int balloon) {
-            if (!is(balloon, CAUGHT) || !city.hasHedge(balloons[balloon].hedge)) {
-                return false;
-            }
-            Balloon asked = balloons[balloon];
-            return hour - asked.caughtBy >= city.late[asked.hedge];
+            return whatCame(balloon) != NONE;
         }
 
         boolean gladdens(int balloon, int child) {
-            return hasBalloon(child) && isAnswered(balloon) && answerOf(balloon) == city.wish[child];
+            return whatCame(balloon) == city.wish[child];
         }
 
         boolean isGlad(int child) {
@@ -818,7 +806,7 @@ public final class RedBalloons {
         int caughtIn(int hedge) {
             int bits = 0;
             for (int i = 0; i < city.balloons; i++) {
-                if (balloons[i].what == CAUGHT && balloons[i].hedge == hedge) {
+                if (balloons[i].hedge == hedge) {
                     bits |= 1 << i;
                 }
             }
@@ -900,13 +888,13 @@ public final class RedBalloons {
         }
 
         private boolean endsWellIfLetIn(int hours, int balloon) {
-            lookAhead(hours);
-            if (!then.letGo(balloon)) {
-                return false;
-            }
+            then.takeFrom(now);
+            then.passHours(hours);
+            then.letGo(balloon);
             // Nobody frees it, so where it is caught at any time it still is at the end.
             then.passHours(LONGEST_FLIGHT);
-            return then.answerOf(balloon) == then.city.wish[balloon];
+            int hedge = then.balloons[balloon].hedge;
+            return hedge >= 0 && then.city.answer[hedge] == then.city.wish[balloon];
         }
 
         int firstThatCannotBe(int n, long row) {
@@ -926,7 +914,11 @@ public final class RedBalloons {
             }
             switch (doing) {
                 case 0:
-                    return other == 0 && hourPasses();
+                    if (other != 0) {
+                        return false;
+                    }
+                    then.passHour();
+                    return true;
                 case 1:
                     return then.letGo(other);
                 case 2:
@@ -938,11 +930,6 @@ public final class RedBalloons {
                 default:
                     return false;
             }
-        }
-
-        private boolean hourPasses() {
-            then.passHour();
-            return true;
         }
     }
 
@@ -1130,8 +1117,7 @@ public final class RedBalloons {
         }
 
         private boolean caughtTogether(int one, int other) {
-            return then.is(one, CAUGHT) && then.is(other, CAUGHT)
-                    && then.balloons[one].hedge == then.balloons[other].hedge;
+            return then.is(one, CAUGHT) && then.balloons[one].hedge == then.balloons[other].hedge;
         }
 
         private int ownJoy(int child) {
@@ -1203,7 +1189,7 @@ public final class RedBalloons {
                     then.passHour();
                 }
             }
-            return then.is(balloon, CAUGHT) && then.balloons[balloon].hedge == hedge;
+            return then.balloons[balloon].hedge == hedge;
         }
 
         int gladOverYears(int m) {
