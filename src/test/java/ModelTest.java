@@ -959,10 +959,37 @@ public final class ModelTest {
         return agreed;
     }
 
+    /** Every call with every mixture of numbers from far outside, at the bounds and within them. */
+    private static boolean extremes() {
+        long[] far = {Integer.MIN_VALUE, -1, 0, 1, 4, 10, Integer.MAX_VALUE};
+        for (String call : NAMES) {
+            int numbers = new Draw(0).numbers(call).length;
+            told.clear();
+            RedBalloons x = new RedBalloons();
+            Model model = new Model();
+            Draw draw = new Draw(7);
+            boolean agreed = tells(x, model, draw.text()) && agree(x, model, "city") && letMany(x, model, draw);
+            int mixtures = (int) Math.pow(far.length, numbers);
+            for (int i = 0; i < mixtures && agreed; i++) {
+                long[] mixed = new long[numbers];
+                int left = i;
+                for (int j = 0; j < numbers; j++) {
+                    mixed[j] = far[left % far.length];
+                    left /= far.length;
+                }
+                agreed = agree(x, model, call, mixed);
+            }
+            if (!agreed) {
+                return false;
+            }
+        }
+        return true;
+    }
+
     public static void main(String[] args) {
         int runs = args.length > 0 ? Integer.parseInt(args[0]) : RUNS;
         long first = args.length > 1 ? Long.parseLong(args[1]) : 0;
-        int wrong = 0;
+        int wrong = extremes() ? 0 : 1;
         for (int i = 0; i < runs && wrong < 3; i++) {
             if (!run(first + i) || !askAll(2 * (first + i)) || !askAll(2 * (first + i) + 1)) {
                 System.out.println("run by seed " + (first + i) + " is not as due");

@@ -620,6 +620,12 @@ public final class PromisesTest {
         like.let(1);
         due("two wish for it", like.most(0), 2);
         due("one exchange", like.most(1), 1);
+        RedBalloons round = over("CBa01Bb02Bc03Bd00Be00Ha00Hb01Hc02Hd03");
+        for (int b = 0; b < 4; b++) {
+            round.let(b);
+        }
+        due("four in a round", round.most(0), 4);
+        due("three exchanges", round.most(1), 3);
         RedBalloons late = over("CW0W1W0Ba20Bb03He83");
         late.let(0);
         due("31 hours are too late", late.most(0), 0);
@@ -660,6 +666,9 @@ public final class PromisesTest {
         due("n", x.judge(Integer.MIN_VALUE, 0), OUTSIDE);
         due("row", x.judge(1, -1), OUTSIDE);
         due("row", x.judge(1, 1000L), OUTSIDE);
+        due("row", x.judge(2, 1000000L), OUTSIDE);
+        due("row", x.judge(3, 1000000000L), OUTSIDE);
+        due("row", x.judge(3, 999999999L), 0);
         due("row", x.judge(4, 1000000000000L), OUTSIDE);
         due("row", x.judge(4, Long.MAX_VALUE), OUTSIDE);
         due("row", x.judge(4, 999999999999L), 0);
@@ -781,7 +790,8 @@ public final class PromisesTest {
         share(late, 0, 0, 1);
         late.hour();
         share(late, 0, 1, 1);
-        late.city();
+        due("no hedge has gone by that", four.later(0, 20, 0), 1);
+        due("no hedge has gone by that", four.hour(), 1);
         RedBalloons sheet = over("CBa00Bb01Ha01");
         sheet.let(0);
         share(sheet, 0, 0, 1);
@@ -931,6 +941,20 @@ public final class PromisesTest {
         due("let 1, an hour, put right 0 and 1", x.years(3), 1);
         x.seed(seedFor(1, 13, 12));
         due("let 1, an hour, put right 2 and 3, of which there is none", x.years(3), 2);
+        RedBalloons four = over("CBa00Bb01Bc02Bd03Ha00Hb01Hc03");
+        four.let(2);
+        four.hour();
+        four.seed(seedFor(12));
+        due("put right 2 and 3", four.years(1), 1);
+        RedBalloons five = over("CBa00Ba00Ba00Ba00Ba00Ha00");
+        five.seed(seedFor(4, 13));
+        due("let 4, an hour", five.years(2), 1);
+        five.let(4);
+        five.hour();
+        five.seed(seedFor(9));
+        due("free 4", five.years(1), 0);
+        five.seed(seedFor(23));
+        due("an hour", five.years(1), 1);
         x.seed(seedFor(3, 13));
         due("let 3, of which there is none", x.years(2), 0);
         x.seed(seedFor(1, 13, 6));
