@@ -464,6 +464,24 @@ public final class EdgesTest {
             due("behind " + (i + 1) + " hours", straight.balloon(0, 0), cells[i]);
             due("behind " + (i + 1) + " hours", straight.balloon(0, 3), i == 5 ? GONE : FLIES);
         }
+        RedBalloons going = letOver("CW4W1W3W2Ba10", 1);
+        going.hour();
+        due("later(0, 2, 0): its wind goes with it", going.later(0, 2, 0), 15);
+        due("later(0, 3, 1)", going.later(0, 3, 1), GONE);
+        going.keep(0);
+        going.hour();
+        going.undo();
+        going.hour();
+        due("undone: its wind is there still", going.balloon(0, 0), 10);
+        going.again(0);
+        going.hour();
+        due("kept: its wind is there still", going.balloon(0, 0), 10);
+        going.city();
+        due("made anew: not let yet", going.later(0, 1, 0), 0);
+        going.hour();
+        going.let(0);
+        going.hour();
+        due("made anew: another wind", going.balloon(0, 0), 1);
         RedBalloons held = over("CW4W1Ba10");
         held.hour();
         held.let(0);
@@ -658,6 +676,7 @@ public final class EdgesTest {
         due("no hedge", over("CW3Ba03").best(0), NONE);
         due("another wish", over("CW0Ba03Ha02").best(0), NONE);
         due("its wish, however late", over("CW0Ba03Ha93").best(0), 0);
+        due("in the last hedge of four", over("CW1Ba03Hf03Hg03Hh03Hb03").best(0), 0);
         sentence("of like ones the fewest");
         due("a longer flight is no matter", over("CW0W0W0W1Ba03Hb03").best(0), 0);
     }
@@ -684,6 +703,14 @@ public final class EdgesTest {
         RedBalloons glad = letOver("CBa00Bb01Bc02Bd03Ba00Ha00Hb01Hc02Hd03", 31);
         due("five children", glad.most(0), 5);
         due("no exchange", glad.most(1), 0);
+        for (int one = 0; one < 5; one++) {
+            for (int other = one + 1; other < 5; other++) {
+                glad.right(one, other);
+                // Children 0 and 4 wished for the same.
+                due("put right " + one + " and " + other, glad.most(1), one == 0 && other == 4 ? 0 : 1);
+                glad.right(one, other);
+            }
+        }
         glad.right(0, 1);
         glad.right(1, 2);
         glad.right(2, 3);
@@ -822,6 +849,19 @@ public final class EdgesTest {
         due("in b: all b's", by.share(0, false), 1);
         due("in b: not c's", by.share(1, true), 0);
         due("in b: not c's", by.share(1, false), 1);
+        RedBalloons inLast = letOver("CW1Ba00Hc00Hb00", 1);
+        inLast.hour();
+        due("in b, told last: all b's", inLast.share(1, true), 1);
+        due("in b, told last: all b's", inLast.share(1, false), 1);
+        due("in b, told last: not c's", inLast.share(0, true), 0);
+        RedBalloons more = letOver("CW1Ba00Hb00", 1);
+        due("of one hedge", more.share(0, true), 1);
+        more.wipe();
+        tell(more, "CW1Ba00Hc00Hb00");
+        more.city();
+        more.let(0);
+        due("of two hedges behind that: in how many hours", more.comes(0), 1);
+        due("of two hedges behind that: in the second", more.fails(0, 1, 1, 0, true), 1);
         sentence("if HEDGES come one by one, in each order as likely");
         // g gladdens child 0; child 1 is gladdened by l or by m, and never by n.
         RedBalloons four = letOver("CW1Bf00Bk00Hg00Hl00Hm00Hn01", 3);
@@ -850,6 +890,11 @@ public final class EdgesTest {
         due("both in one hedge: 3 less 1 are more than 1", over("CW1Ba00Ba00Hb00").rests(0, 1, 1), 11);
         due("neither", over("CW1Ba00Ba00").rests(0, 1, 1), 0);
         sentence("pairs in which neither has more by another choice alone: how many");
+        RedBalloons cross = over("CW1Ba00Ba00Hb00");
+        cross.right(0, 1);
+        // Each has 3 by the other's letting go alone, and 1 by its own holding on.
+        due("one, though both would have more by both", cross.rests(0, 1, 0), 1);
+        due("neither", cross.rests(0, 1, 1), 0);
         due("one", over("CW1Ba00Ba00Hb00").rests(0, 1, 0), 1);
         due("one", over("CW1Ba00Bt01Hb80").rests(0, 1, 0), 1);
         due("one", over("CW1Ba00Ba00").rests(0, 1, 0), 1);
@@ -904,13 +949,15 @@ public final class EdgesTest {
         return v.shiftRight(33).mod(BigInteger.valueOf(24)).intValue();
     }
 
-    /** A seed by which these are drawn (13: an hour), the topmost bit of the first being as told. */
+    private static final int ANY_HOUR = 24;
+
+    /** A seed by which these are drawn, the topmost bit of the first being as told. */
     private static long seedFor(boolean topmost, int... doings) {
         for (long start = 0; start < 50000000L; start++) {
             BigInteger v = next(unsigned(start));
             boolean fits = v.testBit(63) == topmost;
             for (int i = 0; fits && i < doings.length; i++) {
-                fits = Math.min(drawn(v), 13) == Math.min(doings[i], 13) && (doings[i] < 14 || drawn(v) == doings[i]);
+                fits = doings[i] == ANY_HOUR ? drawn(v) >= 13 : drawn(v) == doings[i];
                 v = next(v);
             }
             if (fits) {
@@ -965,7 +1012,7 @@ public final class EdgesTest {
             sentence("0 to 4 that BALLOON is LET, 5 to 9 that less 5 BALLOON is FREED");
             for (int b = 0; b < 5; b++) {
                 RedBalloons x = over("CBa00Ba00Ba00Ba00Ba00Ha00");
-                x.seed(seedFor(topmost, b, 13, b + 5));
+                x.seed(seedFor(topmost, b, ANY_HOUR, b + 5));
                 due("let, hour, free of balloon " + b, x.years(3), 1);
                 RedBalloons y = letOver("CBa00Ba00Ba00Ba00Ba00Ha00", 31 - (1 << b));
                 y.hour();

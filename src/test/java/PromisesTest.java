@@ -43,12 +43,14 @@ public final class PromisesTest {
         for (int what = 0; what < 14; what++) {
             s.append(x.count(what)).append(' ');
         }
-        for (int b = 0; b < 5; b++) {
+        int balloons = x.count(2);
+        for (int b = 0; b < balloons; b++) {
             for (int what = 0; what < 8; what++) {
                 s.append(x.balloon(b, what)).append(' ');
             }
         }
-        for (int h = 0; h < 4; h++) {
+        int hedges = x.count(3);
+        for (int h = 0; h < hedges; h++) {
             for (int what = 0; what < 4; what++) {
                 s.append(x.hedge(h, what)).append(' ');
             }
@@ -458,12 +460,13 @@ public final class PromisesTest {
             same("undo()", all(x), was[left]);
         }
         due("undo()", x.undo(), STATE);
-        x.let(0);
-        x.hour();
-        x.undo();
-        x.right(0, 1);
-        due("undo()", x.undo(), 1);
-        due("undone hours come again", x.hour(), 1);
+        RedBalloons again = over("CW1Ba10Bc00Hb00");
+        again.let(0);
+        again.hour();
+        again.undo();
+        again.right(0, 1);
+        due("undo()", again.undo(), 1);
+        due("undone hours come again", again.hour(), 1);
         RedBalloons many = over("CBa00");
         many.let(0);
         hours(many, 14);
