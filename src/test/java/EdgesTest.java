@@ -662,7 +662,14 @@ public final class EdgesTest {
         RedBalloons x = over(SLOW + "00");
         x.hour();
         due("20 hours", x.best(0), 0);
-        // Winds and even hours come round in 6, so 4 is the longest that any wait for a good hour is.
+        // Winds and even hours come round in 6, so that 5 is the longest that any wait can be: here
+        // hours 0 and 6 lead to b, and in all others it stays at a, in a hedge that is no good.
+        RedBalloons longest = over("CW1W0W0Ba20Hb00Ha01");
+        due("in hour 0", longest.best(0), 0);
+        longest.hour();
+        due("in hour 1 for hour 6", longest.best(0), 5);
+        hours(longest, 5);
+        due("in hour 6", longest.best(0), 0);
         RedBalloons wait = over("CW3W1W3Ba23Hb03");
         hours(wait, 5);
         due("in hour 5 for hour 9", wait.best(0), 4);
