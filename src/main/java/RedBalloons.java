@@ -508,7 +508,7 @@ public final class RedBalloons {
         }
 
         private boolean takesWind(int wind) {
-            if (wind < STILL || wind > SOUTH) {
+            if (wind < STILL || wind > SOUTH || city.winds >= WINDS_AT_MOST) {
                 return false;
             }
             city.wind[city.winds] = wind;
@@ -518,7 +518,7 @@ public final class RedBalloons {
         }
 
         private boolean takesStart(int cell) {
-            if (cell < 0 || cell >= CELLS) {
+            if (cell < 0 || cell >= CELLS || city.balloons >= BALLOONS_AT_MOST) {
                 return false;
             }
             city.startCell[city.balloons] = cell;
@@ -527,7 +527,7 @@ public final class RedBalloons {
         }
 
         private boolean takesOfBalloon(int figure) {
-            if (figure < 0 || figure > (place == 1 ? LAST_KIND : LAST_WISH)) {
+            if (figure < 0 || figure > (place == 1 ? LAST_KIND : LAST_WISH) || city.balloons >= BALLOONS_AT_MOST) {
                 return false;
             }
             if (place == 1) {
@@ -542,7 +542,7 @@ public final class RedBalloons {
         }
 
         private boolean takesHedgeCell(int cell) {
-            if (cell < 0 || cell >= CELLS || city.hedgeAt(cell) != NONE) {
+            if (cell < 0 || cell >= CELLS || city.hedges >= HEDGES_AT_MOST || city.hedgeAt(cell) != NONE) {
                 return false;
             }
             city.hedgeCell[city.hedges] = cell;
@@ -551,7 +551,7 @@ public final class RedBalloons {
         }
 
         private boolean takesOfHedge(int figure) {
-            if (figure < 0 || figure > (place == 1 ? LAST_LATENESS : LAST_WISH)) {
+            if (figure < 0 || figure > (place == 1 ? LAST_LATENESS : LAST_WISH) || city.hedges >= HEDGES_AT_MOST) {
                 return false;
             }
             if (place == 1) {
@@ -755,7 +755,7 @@ public final class RedBalloons {
         /** What has come for a balloon by now; NONE. */
         int whatCame(int balloon) {
             Balloon asked = balloons[balloon];
-            if (asked.hedge < 0 || hour - asked.caughtBy < city.late[asked.hedge]) {
+            if (asked.hedge < 0 || asked.hedge >= city.hedges || hour - asked.caughtBy < city.late[asked.hedge]) {
                 return NONE;
             }
             return city.answer[asked.hedge];
@@ -894,7 +894,7 @@ public final class RedBalloons {
             // Nobody frees it, so where it is caught at any time it still is at the end.
             then.passHours(LONGEST_FLIGHT);
             int hedge = then.balloons[balloon].hedge;
-            return hedge >= 0 && then.city.answer[hedge] == then.city.wish[balloon];
+            return then.city.hasHedge(hedge) && then.city.answer[hedge] == then.city.wish[balloon];
         }
 
         int firstThatCannotBe(int n, long row) {

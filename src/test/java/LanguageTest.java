@@ -22,6 +22,7 @@ public final class LanguageTest {
             + "most(int)int rests(int,int,int)int right(int,int)int seed(long)long share(int,boolean)int undo()int "
             + "wipe()int write(int)int years(int)int";
     private static final String CONSTANTS = "FULL NONE OUTSIDE STATE UNKNOWN";
+    private static final Set<String> LIBRARY = Set.of("Math.abs", "Math.floorMod", "Integer.bitCount");
     private static final int CLASSES_AT_MOST = 12;
     private static final int FIELDS_AT_MOST = 20;
     private static final int PARAMETERS_AT_MOST = 7;
@@ -99,6 +100,20 @@ public final class LanguageTest {
         }
     }
 
+    private static void library(String code) {
+        Matcher named = Pattern.compile("\\b(Math|Integer|Long|Arrays|System|String|List)\\.(\\w+)").matcher(code);
+        while (named.find()) {
+            holds("in the library that is left: " + named.group(), LIBRARY.contains(named.group()));
+        }
+        holds("no texts", !code.contains("\""));
+        Matcher fixed = Pattern.compile("\\bstatic (?!final class\\b)([^({;=]*)([({;=])").matcher(code);
+        while (fixed.find()) {
+            boolean method = fixed.group(2).equals("(");
+            holds("a constant: " + fixed.group(), method || fixed.group(1).matches("final (int|long|boolean|char|int\\[]|long\\[]) \\w+ "));
+        }
+        holds("loops with a counter alone", !Pattern.compile("\\b(while|do)\\b").matcher(code).find());
+    }
+
     private static void lengths(String source) {
         String[] lines = source.split("\n");
         int began = -1;
@@ -130,6 +145,7 @@ public final class LanguageTest {
         String source = Files.readString(SOURCE);
         String code = withoutRemarks(source);
         words(code);
+        library(code);
         lengths(source);
         objectsInCalls(code);
         holds("signs 1 to 127", source.chars().allMatch(c -> c > 0 && c < 128));
